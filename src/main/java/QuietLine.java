@@ -596,7 +596,7 @@ public final class QuietLine {
         }
     }
 
-    /** A row of numbers up to a limit; its cells come as they are needed, since a State has many rows that stay short. */
+    /** A row of numbers up to a limit; its cells come as they are needed, since most rows of a State stay short. */
     private static final class Row {
         final int limit;
         int[] cells = new int[0];
@@ -1331,6 +1331,12 @@ public final class QuietLine {
         private int portCount;
         private boolean readerOver;
 
+        State() {
+            for (int c = 0; c < PORTS_MOST; c++) {
+                ports[c] = new Port();
+            }
+        }
+
         void reset(Rules rules) {
             wire.clear();
             reader.clear();
@@ -1338,19 +1344,9 @@ public final class QuietLine {
             came = 0;
             picked = NONE;
             readerOver = false;
-            openPorts(rules.ports);
+            portCount = rules.ports;
             for (int c = 0; c < portCount; c++) {
                 ports[c].reset(rules.credits[c]);
-            }
-        }
-
-        /** CHANNELS that no LINE has told yet take no room. */
-        private void openPorts(int wanted) {
-            portCount = Math.max(0, Math.min(PORTS_MOST, wanted));
-            for (int c = 0; c < portCount; c++) {
-                if (ports[c] == null) {
-                    ports[c] = new Port();
-                }
             }
         }
 
@@ -1361,7 +1357,7 @@ public final class QuietLine {
             came = other.came;
             picked = other.picked;
             readerOver = other.readerOver;
-            openPorts(other.portCount);
+            portCount = other.portCount;
             for (int c = 0; c < portCount; c++) {
                 ports[c].copyFrom(other.ports[c]);
             }
