@@ -267,6 +267,36 @@ public final class PromisesTest {
         dueChannel("5 new CHANNEL", x, 0, 4, 4, 0, 0, 0, 0, 0, 0, 0, 0, 0, 0);
         due("5 the other CHANNEL is gone", thrown(x, 1, 0), 1);
         due("5 what is not told is as without", x.rule(3), 1);
+        newLineForgets();
+    }
+
+    private static void newLineForgets() {
+        QuietLine x = lineOf("way pairs;longest 9;pairs 9;check none;size 1;channel 8");
+        sent(x, 0, 1, 2, 3);
+        sent(x, 0, 4, 5);
+        x.put(5);
+        sent(x, 0, 6, 7);
+        x.put(1);
+        x.read(4);
+        x.lose(0);
+        x.read(600);
+        onLine(x, 2, 38, 0);
+        x.read(600);
+        dueChannel("5 before", x, 0, 2, 8, 1, 1, 6, 7, 1, 2, 1, 1, 0, 0);
+        text(x, "channel 3");
+        x.line();
+        dueChannel("5 all is gone", x, 0, 3, 3, 0, 0, 0, 0, 0, 0, 0, 0, 0, 0);
+        due("5 way without", x.rule(0), 0);
+        due("5 longest without", x.rule(1), 20);
+        due("5 pairs without", x.rule(2), 10);
+        due("5 size without", x.rule(4), 16);
+        sent(x, 0, 9);
+        x.put(1);
+        dueLine("5 nothing of the other one's message", x, 4, 48, 9, 57, 0);
+        x.read(600);
+        due("5 nor of what was THERE", x.take(0), 1);
+        due("5 nor of its bytes", x.hand(0), 9);
+        due("5 nor of its FRAMES", x.channel(0, 0), 3);
     }
 
     private static void promise6() {
@@ -370,6 +400,10 @@ public final class PromisesTest {
         sent(x, 0, 200, 100, 0);
         x.put(1);
         dueLine("8 sum modulo 256", x, 4, 48, 200, 100, 2, 92, 0);
+        x = lineOf("check crc;channel 1;channel 1;channel 1");
+        onLine(x, 3, 128, 137, 0);
+        due("8 crc of 128, by the table", crcOf(128), 137);
+        due("8 crc of 128", x.frame(0, 2), 0);
         numbersGoRound();
         noRoom();
     }
@@ -532,6 +566,7 @@ public final class PromisesTest {
         due("13 no ACT", x.count(1), 0);
         seed = seedFor(2);
         due("13 put in", x.noise(1, seed), 1);
+        putInAtTheEnd();
         dueLine("13 put in", x, draw(seed, 3, 255) + 1);
         due("13 one ACT", x.count(1), 1);
         onLine(x, 10, 20, 30, 40);
@@ -556,6 +591,17 @@ public final class PromisesTest {
         due("13 a full LINE", x.noise(1, seedFor(2)), 0);
         due("13 the one draw is the next one's", x.noise(2, seedFor(2, 1)), 1);
         due("13 lost", x.rule(6), 599);
+    }
+
+    private static void putInAtTheEnd() {
+        long seed = 0;
+        while (draw(seed, 1, 3) != 2 || draw(seed, 2, 4) != 3) {
+            seed++;
+        }
+        QuietLine x = lineOf("channel 1");
+        onLine(x, 1, 2, 3);
+        due("13 put in", x.noise(1, seed), 1);
+        dueLine("13 put in at the end", x, 1, 2, 3, draw(seed, 3, 255) + 1);
     }
 
     /** A seed whose first draws of 3 (none else between) are these. */
@@ -622,6 +668,7 @@ public final class PromisesTest {
         dueChannel("14 the LAST", x, 0, 8, 8, 0, 0, 0, 2, 0, 0, 1, 0, 0, 0);
         readerTears();
         readerOverflows();
+        overflowIsKept();
         readerLimits();
     }
 
@@ -675,6 +722,40 @@ public final class PromisesTest {
         onLine(x, 2, 48, 0);
         x.read(3);
         dueEvent("14 the next one is as ever", x, 1, 48, 2, 0, 0);
+    }
+
+    private static void overflowIsKept() {
+        QuietLine x = lineOf("way pairs;check none;size 60;longest 60;channel 8");
+        for (int k = 0; k < 201; k++) {
+            x.insert(0, 1);
+        }
+        x.insert(201, 0);
+        x.read(201);
+        x.image();
+        x.read(1);
+        due("33 too many: BROKEN", x.event(0, 0), 2);
+        x.back();
+        x.read(1);
+        due("33 the reader as it was: BROKEN again", x.event(0, 0), 2);
+        x.back();
+        text(x, "check none;channel 8");
+        x.line();
+        onLine(x, 2, 48, 0);
+        x.read(3);
+        due("5 the reader of another LINE", x.event(0, 0), 1);
+
+        x = lineOf("way pairs;check none;size 60;longest 60;channel 8");
+        for (int k = 0; k < 202; k++) {
+            x.insert(0, 1);
+        }
+        x.read(200);
+        x.read(1);
+        x.undo();
+        x.lose(0);
+        x.lose(0);
+        x.insert(0, 0);
+        x.read(1);
+        dueEvent("31 the reader as it was: 200 alone", x, 4, 0, 200, 198, 0);
     }
 
     private static void readerLimits() {
@@ -1174,6 +1255,7 @@ public final class PromisesTest {
         }
         due("31 eight are left", x.rule(6), 8);
         due("31 not more", x.undo(), NONE);
+        undoBytes();
         for (int k = 0; k < 5; k++) {
             x.insert(0, 1);
         }
@@ -1183,6 +1265,22 @@ public final class PromisesTest {
         x.undo();
         due("31 in between", x.undo(), 3);
         due("31 in between", x.rule(6), 11);
+    }
+
+    private static void undoBytes() {
+        QuietLine x = lineOf("channel 2");
+        onLine(x, 1, 2, 3);
+        x.lose(1);
+        x.undo();
+        dueLine("31 lose", x, 1, 2, 3);
+        x.noise(5, 99);
+        x.undo();
+        dueLine("31 noise", x, 1, 2, 3);
+        due("31 these alone", x.count(1), 3);
+        x.flip(0, 7);
+        x.insert(0, 9);
+        x.undo();
+        dueLine("31 insert", x, 6, 2, 3);
     }
 
     private static void promise32() {
@@ -1214,11 +1312,26 @@ public final class PromisesTest {
         dueLine("33", x, 3, 1, 2, 0);
         dueChannel("33", x, 0, 2, 4, 2, 2, 2, 1, 0, 0, 0, 1, 1, 0);
         due("33 EVENTS", x.rule(9), 1);
+        due("33 the latest EVENT", x.event(0, 1), 32);
+        due("33 none ahead of it", x.event(1, 1), NONE);
         due("33 no ACT", x.count(1), 0);
         due("33 none UNDONE", x.undo(), NONE);
         due("33 the HAND stays", x.hand(2), 3);
         x.read(600);
         due("33 again", x.back(), 4);
+        x.lose(0);
+        x.read(600);
+        x.put(2);
+        x.read(600);
+        due("33 LOST meanwhile", x.channel(0, 6), 1);
+        x.back();
+        due("33 LOST not", x.channel(0, 6), 0);
+        x.put(2);
+        x.read(600);
+        x.take(0);
+        x.take(0);
+        due("33 bytes of what WAITED", x.hand(0), 4);
+        due("33 CREDITS by FRAMES", x.channel(0, 0), 4);
         text(x, "channel 1");
         x.line();
         due("33 not of this LINE", x.back(), NONE);
