@@ -916,7 +916,7 @@ public final class QuietLine {
         }
     }
 
-    /** Bytes STUFFED and UNSTUFFED. */
+    /** Bytes STUFFED and UNSTUFFED; the way comes with each call, since it can be another than the LINE's. */
     private static final class Stuffing {
         int longest = 20;
         int pairs = 10;
@@ -1565,7 +1565,7 @@ public final class QuietLine {
         }
     }
 
-    /** DRAWS. */
+    /** DRAWS: all of the NOISE of a call comes from its seed, so that the same call always does the same. */
     private static final class Draws {
         long seed;
 
