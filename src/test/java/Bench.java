@@ -93,6 +93,20 @@ final class Bench {
         return b;
     }
 
+    /**
+     * So many bytes (191 .. 255) without a 0 ahead of one MARK, that aren't WRONG: three FRAMES of 64 with CODES of 1 in
+     * place of the MARKS between, and more of these ahead.
+     */
+    static Bench without(int bytes) {
+        Bench b = filled(192);
+        b.on().flip(63, 1);
+        b.on().flip(127, 1);
+        for (int k = 191; k < bytes; k++) {
+            b.on().insert(0, 1);
+        }
+        return b;
+    }
+
     // ---- what is there
 
     private static String told(int[] answers) {

@@ -25,6 +25,22 @@ public final class CallsSentencesTest extends Sentences {
         return b;
     }
 
+    /** A LINE on which nothing is as at first: CHANNEL 0 counts some of all, the reader has a byte; no ACT to be UNDONE. */
+    private static Bench rich() {
+        Bench b = Bench.of("way pairs;longest 5;pairs 3;check none;size 1;channel 8;channel 8");
+        b.heard(3, 48, 5, 0, 3, 49, 6, 0, 3, 50, 7, 0);
+        b.on().take(0);
+        b.heard(3, 37, 7, 0, 3, 38, 8, 0);
+        b.send(0, 1, 2);
+        b.on().put(1);
+        b.send(1, 9);
+        b.on().read(1);
+        b.on().image();
+        b.on().back();
+        due("some of all", b.channel(0), "7 8 1 1 1 7 2 1 2 1 1 1");
+        return b;
+    }
+
     // ---- 1 .. 6
 
     private static void theTape() {
@@ -124,29 +140,35 @@ public final class CallsSentencesTest extends Sentences {
             due("it stays", b.on().rule(4), 9);
         });
         sentence("(all of another one is gone, but STATUS, BOX)", () -> {
-            Bench b = Bench.of("check none;size 1;longest 5;pairs 3;way pairs;channel 8;channel 8");
-            b.send(0, 1, 2, 3);
-            b.send(1, 4, 5);
-            b.on().put(60);
-            b.on().lose(0);
-            b.on().read(600);
-            b.on().take(1);
-            b.send(0, 9);
-            b.on().put(1);
-            b.on().read(1);
-            b.on().image();
-            b.on().put(0);
+            Bench b = rich();
+            b.on().renew(1);
             b.tape(5);
             b.on().stuff(0);
-            b.text("channel 4;channel 2");
+            due("it has messages, ACTS, an IMAGE", b.on().put(1) + " " + b.on().image(), "1 7");
+            b.text("channel 4");
             b.on().line();
-            due("all", b.look(), "0 20 10 1 16 2 0 0 0 0 -1 20 0 -1 0 0 0 -1 0 0 2 0 "
-                + "; 4 4 0 0 0 0 0 0 0 0 0 0; 2 2 0 0 0 0 0 0 0 0 0 0; -1 -1 -1 -1 -1; 0 0 0 0 0");
+            due("all", b.look(), "0 20 10 1 16 1 0 0 0 0 -1 20 0 -1 0 0 0 -1 0 0 2 0 "
+                + "; 4 4 0 0 0 0 0 0 0 0 0 0; -1 -1 -1 -1 -1; 0 0 0 0 0");
+            due("the other CHANNEL", b.throwsNoSuch(1, 0), true);
             due("the HAND", b.on().hand(0), NONE);
             due("the IMAGE", b.on().back(), NONE);
             due("ACTS", b.on().undo(), NONE);
             due("STATUS stays", b.status(), "0 0 1 0");
             due("BOX stays", b.box(), "2 5");
+            b.on().send(0);
+            b.on().put(1);
+            due("what is put", b.wire(), "3 48 48 0");
+            due("what is read", b.on().read(600) + " " + b.event(0), "1 1 48 3 0 0");
+            b.send(0, Bench.sevens(17));
+            b.on().put(2);
+            b.on().read(600);
+            due("what is TAKEN", b.on().take(0) + " " + b.on().channel(0, 0), "0 2");
+            due("two FRAMES", b.on().take(0) + " " + b.on().channel(0, 0), "17 4");
+            b = Bench.without(201);
+            b.on().read(201);
+            b.text("check none;channel 4");
+            b.on().line();
+            due("that the reader had too many", b.heard(2, 48, 0) + " " + b.event(0), "1 1 48 2 0 0");
         });
         sentence(": how many CHANNELS.", () -> {
             Bench b = new Bench();
@@ -218,16 +240,15 @@ public final class CallsSentencesTest extends Sentences {
             due("a MARK", b.on().rule(8), 0);
             b.on().read(1);
             due("behind it", b.on().rule(8), 1);
-            b = Bench.filled(256);
-            for (int mark = 63; mark < 256; mark += 64) {
-                b.on().flip(mark, 1);
-            }
+            b = Bench.without(255);
             b.on().read(199);
             due("199", b.on().rule(8), 199);
             b.on().read(1);
             due("200", b.on().rule(8), 200);
-            b.on().read(600);
+            b.on().read(55);
             due("later ones are left out", b.on().rule(8), 200);
+            b.on().read(1);
+            due("a MARK", b.on().rule(8), 0);
         });
         sentence("9 EVENTS that came in all,", () -> {
             Bench b = Bench.of("check none;channel 8");
@@ -745,10 +766,7 @@ public final class CallsSentencesTest extends Sentences {
                 }
                 b.on().read(600);
                 due("6", b.event(0), "6 56 2 0 0");
-                b = Bench.filled(256);
-                for (int mark = 63; mark < 255; mark += 64) {
-                    b.on().flip(mark, 1);
-                }
+                b = Bench.without(255);
                 b.on().read(600);
                 due("255 bytes", b.event(0), "2 -1 200 -1 -1");
             });
@@ -757,12 +775,16 @@ public final class CallsSentencesTest extends Sentences {
             Bench b = Bench.of("check none;channel 8");
             due("none", b.on().event(0, 0), NONE);
             b.heard(2, 48, 0);
-            due("one", b.on().event(0, 0), 1);
-            for (int i : new int[] {-1, 1, 39, 40, MIN, MAX}) {
+            due("one ahead of the first", b.event(1), "-1 -1 -1 -1 -1");
+            b.heard(2, 49, 0);
+            due("two", b.event(0) + "; " + b.event(1), "1 49 2 0 0; 1 48 2 0 0");
+            // 858993460 times five goes round to 4
+            for (int i : new int[] {-1, 2, 39, 40, 858993459, MIN, MAX}) {
                 due("event(" + i + ", 0)", b.on().event(i, 0), NONE);
             }
             for (int what : new int[] {-1, 5, MIN, MAX}) {
                 due("event(0, " + what + ")", b.on().event(0, what), NONE);
+                due("event(1, " + what + ")", b.on().event(1, what), NONE);
             }
         });
     }
@@ -938,19 +960,9 @@ public final class CallsSentencesTest extends Sentences {
                 due("BAD", b.frame(2), "8 2 3 -1 -1");
                 due("STRANGE: a longer PART, no such CHANNEL", b.frame(3), "11 5 4 3 8");
                 due("STRANGE: no such CHANNEL", b.frame(4), "17 3 4 3 8");
-                b = Bench.filled(256);
-                due("the last", b.frame(3), "192 63 0 0 3");
-                for (int mark = 63; mark < 255; mark += 64) {
-                    b.on().flip(mark, 1);
-                }
-                for (int k = 0; k < 55; k++) {
-                    b.on().lose(2);
-                }
-                b.on().lose(0);
-                b.on().insert(0, 6);
-                due("200 bytes", b.frame(0), "0 200 4 0 0");
-                b.on().insert(0, 1);
-                due("more than 200", b.frame(0), "0 201 2 -1 -1");
+                due("the last of four", Bench.filled(256).frame(3), "192 63 0 0 3");
+                due("200 bytes", Bench.without(200).frame(0), "0 200 4 0 0");
+                due("more than 200", Bench.without(201).frame(0), "0 201 2 -1 -1");
             });
         sentence("NONE: no such ones.", () -> {
             due("no LINE", new Bench().on().frame(0, 0), NONE);
@@ -1115,6 +1127,14 @@ public final class CallsSentencesTest extends Sentences {
                 // 0: FIRST 0 (fourteen LOST, TORN), 1, and two WAIT; 1: 4 (two LOST, TORN), then 0 (eleven LOST, TORN)
                 due("all", b.flushed(), "1 " + (1 + 1 + 14 + 2 + 11) + " 3 2 4");
                 due("nothing changes", b.look(), before);
+                b = Bench.of("check none;size 1;channel 1;channel 1;channel 1;channel 1");
+                for (int c = 0; c < 4; c++) {
+                    b.heard(2, 64 * c + 34, 0);
+                    b.on().send(c);
+                    b.on().send(c);
+                }
+                // two LOST each, then NUMBER 0 of 3: thirteen more; TORN; one more WAITS without a CREDIT
+                due("four CHANNELS", b.flushed(), "4 60 4 4 4");
             });
         sentence("NONE: no such what, no LINE.", () -> {
             due("no LINE", new Bench().on().flushed(0), NONE);
@@ -1133,9 +1153,33 @@ public final class CallsSentencesTest extends Sentences {
 
     // ---- 31 .. 36
 
+    private static void undone(String what, java.util.function.ToIntFunction<QuietLine> act) {
+        Bench b = rich();
+        String before = b.look() + "; " + b.wire();
+        int answer = act.applyAsInt(b.on());
+        due(what + " is done", answer >= 0, true);
+        due(what + ": ACTS", b.on().count(1), 1);
+        String done = b.look();
+        String hand = b.hand();
+        due(what + ": undo()", b.on().undo(), 0);
+        due(what + ": all is as it was", b.look() + "; " + b.wire(), before);
+        due(what + ": the HAND stays", b.hand(), hand);
+        due(what + ": once more", act.applyAsInt(b.on()), answer);
+        due(what + ": all is as it was with it", b.look(), done);
+    }
+
     private static void undoing() {
         section("Promise 31: undo");
         sentence("The latest ACT is UNDONE (the HAND stays): how many can be then.", () -> {
+            undone("send", x -> x.send(1));
+            undone("put", x -> x.put(60));
+            undone("flip", x -> x.flip(0, 255));
+            undone("lose", x -> x.lose(0));
+            undone("insert", x -> x.insert(0, 7));
+            undone("noise", x -> x.noise(40, 7));
+            undone("read", x -> x.read(600));
+            undone("take", x -> x.take(0));
+            undone("renew", x -> x.renew(0));
             Bench b = Bench.of("check none;size 2;channel 2;channel 1");
             String start = b.look();
             b.send(0, 1, 2, 3);
@@ -1164,6 +1208,13 @@ public final class CallsSentencesTest extends Sentences {
             due("picked last", b.on().rule(10), NONE);
             due("send", b.on().undo(), 0);
             due("all but the HAND", b.look(), start.replace(" 0 0 0 0 ;", " 0 0 0 3 ;"));
+            b = Bench.without(200);
+            b.on().insert(200, 1);
+            b.on().read(200);
+            b.on().read(1);
+            b.on().undo();
+            b.on().lose(0);
+            due("the reader had not too many", b.on().read(1) + " " + b.on().event(0, 0), "1 4");
         });
         sentence("NONE: none.", () -> {
             due("no LINE", new Bench().on().undo(), NONE);
@@ -1203,25 +1254,26 @@ public final class CallsSentencesTest extends Sentences {
 
         section("Promise 33: back");
         sentence("All is as in the IMAGE (no ACT can be UNDONE then; the HAND stays): bytes on the LINE.", () -> {
-            Bench b = Bench.of("check none;size 1;channel 4");
-            b.send(0, 1, 2);
-            b.on().put(1);
-            b.on().read(2);
-            b.on().image();
+            Bench b = rich();
+            due("bytes", b.on().image(), 3);
             String before = b.look();
-            b.on().put(1);
+            String line = b.wire();
+            b.on().put(60);
+            b.on().flip(0, 1);
             b.on().read(600);
-            b.on().take(0);
+            due("another one in the HAND", b.on().take(0) + ": " + b.hand(), "1: 6");
             b.on().renew(0);
-            b.send(0, 9);
-            due("bytes", b.on().back(), 2);
+            b.on().send(0);
+            due("bytes", b.on().back(), 3);
             due("no ACT", b.on().undo() + " " + b.on().count(1), "-1 0");
-            due("the HAND stays", b.hand(), "1 2");
-            due("all", b.look(), before.replace(" 0 3 0 0 ;", " 0 0 0 2 ;"));
-            b.on().lose(0);
+            due("the HAND stays", b.hand(), "6");
+            due("all", b.look(), before);
+            due("the LINE", b.wire(), line);
+            b.on().read(600);
             due("an ACT can be UNDONE again", b.on().count(1), 1);
-            due("the IMAGE can be used again", b.on().back(), 2);
-            due("all again", b.look(), before.replace(" 0 3 0 0 ;", " 0 0 0 2 ;"));
+            due("the IMAGE can be used again", b.on().back(), 3);
+            due("all again", b.look(), before);
+            due("a message's FRAMES too", b.on().take(0) + " " + b.on().channel(0, 0), "1 8");
         });
         sentence("NONE: no IMAGE of this LINE.", () -> {
             due("no LINE", new Bench().on().back(), NONE);
@@ -1278,6 +1330,9 @@ public final class CallsSentencesTest extends Sentences {
             due("three of CHANNEL 0", b.on().most(0), 0);
             b.heard(2, 181, 0);
             due("four of CHANNEL 2", b.on().most(0), 2);
+            b = Bench.of("check none;channel 8;channel 8;channel 8;channel 8");
+            b.heard(2, 241, 0);
+            due("one of CHANNEL 3", b.on().most(0), 3);
         });
         sentence("1 the CHANNEL that would be picked now (NONE),", () -> {
             Bench b = Bench.of("channel 1;channel 2");
@@ -1323,11 +1378,7 @@ public final class CallsSentencesTest extends Sentences {
             due("three", b.on().most(3), 3);
             b.on().read(9);
             due("what the reader has is not counted", b.on().most(3), 1);
-            b = Bench.filled(256);
-            for (int mark = 63; mark < 255; mark += 64) {
-                b.on().flip(mark, 1);
-            }
-            due("more than 200", b.on().most(3), 255);
+            due("more than 200", Bench.without(255).on().most(3), 255);
         });
         sentence("4 bytes that WAIT in all (those that were put not),", () -> {
             Bench b = Bench.of("size 2;channel 3;channel 2");
@@ -1346,6 +1397,11 @@ public final class CallsSentencesTest extends Sentences {
                 b.send(0, Bench.sevens(120));
             }
             due("seven times 120", b.on().most(4), 840);
+            b = Bench.of("channel 8;channel 8;channel 8;channel 8");
+            for (int c = 0; c < 4; c++) {
+                b.send(c, Bench.sevens(10 + c));
+            }
+            due("four CHANNELS", b.on().most(4), 46);
         });
         sentence("5 the greatest byte on the LINE (NONE without).", () -> {
             Bench b = Bench.of("channel 8");

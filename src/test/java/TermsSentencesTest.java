@@ -199,7 +199,11 @@ public final class TermsSentencesTest extends Sentences {
             fault("size longest;channel 1", 5);
             fault("channels 1", 0);
             fault("channe 1", 0);
+            fault("xhannel 1", 0);
+            fault("channex 1", 0);
             fault("channel 1;x", 10);
+            fault("channel 1;way xlain", 14);
+            fault("channel 1;check xum", 16);
         });
         sentence("a sort the second time (a fifth channel),", () -> {
             fault("channel 1;size 5;size 99", 17);
@@ -238,6 +242,7 @@ public final class TermsSentencesTest extends Sentences {
             stuffed(b, PAIRS, "6 7 3 8 9 1", 7, 0, 0, 8, 9, 0);
             b = Bench.of("longest 2;pairs 2;channel 1");
             stuffed(b, PLAIN, "2 7 3 8 9 1 2 255", 7, 0, 8, 9, 0, 255);
+            stuffed(b, PLAIN, "3 7 8 2 9", 7, 8, 9);
             stuffed(b, PAIRS, "5 7 3 8 9 1 1", 7, 0, 0, 8, 9, 0);
         });
         sentence("From a place on: the RUN of bytes that aren't 0, L at most.", () -> {
@@ -694,6 +699,10 @@ public final class TermsSentencesTest extends Sentences {
             due("no more put in", b.on().insert(0, 7), NONE);
             due("no more by NOISE", b.on().noise(1, Drawn.seedOf(2)), 0);
             due("600 still", b.on().rule(6), 600);
+            b = Bench.filled(598);
+            b.on().send(1);
+            due("a FRAME of three, its MARK counted", b.on().put(60), 0);
+            due("598 still", b.on().rule(6), 598);
         });
         sentence("a FRAME for which there is no room is not put, nor any behind it.", () -> {
             Bench b = Bench.filled(597);
@@ -732,13 +741,7 @@ public final class TermsSentencesTest extends Sentences {
         });
         sentence("of those ahead of a MARK that are more than 200 the later ones are left out, and what is there is WRONG.",
             () -> {
-                // three FRAMES of 64 without the MARKS between: CODES 1 in their place, and nine more of these ahead
-                Bench b = Bench.filled(192);
-                b.on().flip(63, 1);
-                b.on().flip(127, 1);
-                for (int k = 0; k < 9; k++) {
-                    b.on().insert(0, 1);
-                }
+                Bench b = Bench.without(200);
                 b.on().image();
                 due("200", b.on().read(600), 1);
                 due("200 are read", b.event(0), "4 0 200 195 0");
@@ -940,13 +943,15 @@ public final class TermsSentencesTest extends Sentences {
             due("TORN instead", b.channel(0), "8 8 0 0 0 10 0 1 8 0 0 0");
             b.heard(2, 112, 0);
             due("another CHANNEL has room", b.on().event(0, 0), 1);
-            b.on().take(0);
+            due("the first one is THERE still", b.on().take(0), 0);
             b.heard(3, 58, 110, 0);
             due("room again", b.on().event(0, 0) + " " + b.on().channel(0, 8), "1 8");
+            String bytes = "";
             for (int k = 0; k < 8; k++) {
                 b.on().take(0);
+                bytes += b.hand() + " ";
             }
-            due("the ninth was not kept", b.hand(), "110");
+            due("the ninth was not kept", bytes, "102 103 104 105 106 107 108 110 ");
         });
     }
 
@@ -955,26 +960,28 @@ public final class TermsSentencesTest extends Sentences {
     private static void taking() {
         sentence("A message TAKEN from a CHANNEL (the first THERE) gives it back as many CREDITS as it had FRAMES (no more"
             + " than told).", () -> {
-                Bench b = Bench.of("check none;size 2;channel 6;channel 2");
+                Bench b = Bench.of("check none;size 2;channel 8;channel 2");
                 b.send(0, 1, 2, 3, 4, 5);
                 b.send(0, 6);
+                b.send(0, 7, 8, 9);
                 b.on().put(60);
                 b.on().read(600);
-                due("four are gone", b.on().channel(0, 0), 2);
-                b.on().take(0);
-                due("the first one", b.hand(), "1 2 3 4 5");
+                due("six are gone", b.on().channel(0, 0), 2);
+                due("the first one", b.on().take(0) + ": " + b.hand(), "5: 1 2 3 4 5");
                 due("three come back", b.on().channel(0, 0), 5);
-                b.on().take(0);
-                due("the next one", b.hand(), "6");
+                due("the next one", b.on().take(0) + ": " + b.hand(), "1: 6");
                 due("one comes back", b.on().channel(0, 0), 6);
-                b.heard(2, 52, 0);
+                due("the last one", b.on().take(0) + ": " + b.hand(), "3: 7 8 9");
+                due("two come back", b.on().channel(0, 0), 8);
+                b.heard(2, 54, 0);
                 b.on().take(0);
-                due("no more than told", b.on().channel(0, 0), 6);
-                b.heard(2, 37, 0, 2, 6, 0, 2, 7, 0, 2, 24, 0);
+                due("no more than told", b.on().channel(0, 0), 8);
+                b.heard(2, 39, 0, 2, 8, 0, 2, 9, 0, 2, 26, 0);
                 b.on().send(0);
                 b.on().put(1);
                 b.on().take(0);
-                due("four FRAMES, one CREDIT gone", b.on().channel(0, 0), 6);
+                due("four FRAMES, one CREDIT gone", b.on().channel(0, 0), 8);
+                due("the other CHANNEL", b.on().channel(1, 0), 2);
             });
         sentence("RENEWED: a CHANNEL has all CREDITS as told.", () -> {
             Bench b = Bench.of("check none;channel 3;channel 2");
@@ -1091,6 +1098,22 @@ public final class TermsSentencesTest extends Sentences {
             due("the LINE", b.wire(), line);
             due("the ACTS were four", before.contains(" 0 4 0 0 ; "), true);
             due("all but ACTS", b.look(), before.replace(" 0 4 0 0 ; ", " 0 0 0 0 ; "));
+            b = Bench.without(200);
+            b.on().insert(200, 1);
+            b.on().read(201);
+            b.on().image();
+            due("201 ahead of the MARK", b.on().read(1) + " " + b.on().event(0, 0), "1 2");
+            b.heard(9, 0);
+            b.on().back();
+            due("that the reader has too many is kept", b.on().read(1) + " " + b.on().event(0, 0), "1 2");
+            b = Bench.without(200);
+            b.on().insert(200, 1);
+            b.on().read(200);
+            b.on().image();
+            b.on().read(1);
+            b.on().back();
+            b.on().lose(0);
+            due("that it has not is kept", b.on().read(1) + " " + b.on().event(0, 0), "1 4");
         });
     }
 
@@ -1103,7 +1126,7 @@ public final class TermsSentencesTest extends Sentences {
                 Bench b = Bench.of("check none;channel 8;channel 8").wired(2, 48, 0);
                 due("v 0", b.on().harm(1, 0), HIDDEN);
                 due("to a CHANNEL that is", b.on().harm(1, 64), 0);
-                due("without carries: 48 and 16 is 32: no LAST one", b.on().harm(1, 16), 1);
+                due("48 and 16 is 32: no LAST one", b.on().harm(1, 16), 1);
                 due("to a CHANNEL that isn't", b.on().harm(1, 128), 1);
                 due("255", b.on().harm(1, 255), 1);
                 due("the byte becomes 0", b.on().harm(1, 48), 1);
@@ -1111,6 +1134,7 @@ public final class TermsSentencesTest extends Sentences {
                 b.wired(2, 49, 0);
                 due("the others as they are", b.on().harm(1, 128), 1);
                 due("another's byte", b.on().harm(4, 128), 1);
+                due("without carries: 49 and 15 is 62: FIRST and LAST still", b.on().harm(4, 15), 0);
             });
         sentence("and all that is on the LINE read: how many messages fewer (above 0) or more (below) would be THERE than"
             + " without.", () -> {
@@ -1153,9 +1177,14 @@ public final class TermsSentencesTest extends Sentences {
                 due("the MARK not", Bench.of("check none;channel 8").wired(2, 48, 0, 2, 49, 0).on().blind(0), 62);
                 // 1 is BAD, 2 .. 63 but itself aren't
                 due("reduced", Bench.of("check none;way reduced;channel 8").wired(48, 0).on().blind(0), 61);
+                due("reduced, four", Bench.of("check none;way reduced;channel 8;channel 8;channel 8;channel 8").wired(48, 0)
+                    .on().blind(0), 253);
                 due("sum sees each", Bench.of("check sum;channel 8").wired(3, 48, 48, 0).on().blind(0), 0);
                 // 3 1 1 is a HEAD of 1 and its sum
                 due("sum, but for a CODE", Bench.of("check sum;channel 8").wired(1, 1, 1, 0).on().blind(0), 1);
+                // 48, 0, 200; for the 2: 1 is 0, 200, 48; 3 is 48, 200; others stand behind 48, 200; so do all for the 200
+                due("reduced, two BLOCKS", Bench.of("check none;way reduced;channel 8").wired(2, 48, 200, 0).on().blind(0),
+                    254 + 62 + 254);
                 // the CODE 4: 3 leaves 8 for a CODE; 2 leaves 7; the PART's bytes: 254 each
                 due("a PART", Bench.of("check none;size 2;channel 8").wired(4, 48, 7, 8, 0).on().blind(0), 62 + 508);
                 // CODE 3 for the 2: a HEAD of 48 and a byte of 1, that is no longer than size; the second CODE: none
@@ -1265,8 +1294,8 @@ public final class TermsSentencesTest extends Sentences {
                     }
                     Bench b = Bench.of("channel 8").wired(255);
                     b.on().noise(1, seed);
-                    String[] lines = {Integer.toString(255 ^ what), "", Drawn.draw(seed, 2, 2) == 0 ? what + " 255" : "255 " + what};
-                    due("sort " + sort + ", " + what, b.wire(), lines[sort]);
+                    String putIn = Drawn.draw(seed, 2, 2) == 0 ? what + " 255" : "255 " + what;
+                    due("sort " + sort + ", " + what, b.wire(), sort == 2 ? putIn : Integer.toString(255 ^ what));
                 }
             }
         });
@@ -1294,8 +1323,8 @@ public final class TermsSentencesTest extends Sentences {
     }
 
     private static void statuses() {
-        sentence("STATUS: how many calls were refused: 0 no LINE, 1 no such CHANNEL, byte, message, 2 out of bounds, 3 full;",
-            () -> {
+        sentence("STATUS: how many calls were refused: 0 no LINE, 1 no such CHANNEL, byte, message, 2 out of bounds,"
+            + " 3 full;", () -> {
                 Bench b = new Bench();
                 due("at first", b.status(), "0 0 0 0");
                 b.on().send(0);
