@@ -176,6 +176,9 @@ public final class TermsSentencesTest extends Sentences {
             fault("size 9;way x;channel 0", 11);
             fault("channel 1 channel", 10);
             fault("channel 1 1", 10);
+            // as digits these would be 15 and 11
+            fault("size ?;channel 1", 5);
+            fault("size ;channel 1", 5);
         });
         sentence("(the length, if the TEXT ends too early, also without a channel):", () -> {
             fault("", 0);
@@ -197,6 +200,9 @@ public final class TermsSentencesTest extends Sentences {
             fault("pairs pairs;channel 1", 6);
             fault("way way;channel 1", 4);
             fault("size longest;channel 1", 5);
+            // as digits these would be 49 and 50
+            fault("size a;channel 1", 5);
+            fault("longest b;channel 1", 8);
             fault("channels 1", 0);
             fault("channe 1", 0);
             fault("xhannel 1", 0);
@@ -982,6 +988,9 @@ public final class TermsSentencesTest extends Sentences {
                 b.on().take(0);
                 due("four FRAMES, one CREDIT gone", b.on().channel(0, 0), 8);
                 due("the other CHANNEL", b.on().channel(1, 0), 2);
+                b.heard(2, 112, 0);
+                b.on().take(1);
+                due("no more than it was told", b.on().channel(1, 0), 2);
             });
         sentence("RENEWED: a CHANNEL has all CREDITS as told.", () -> {
             Bench b = Bench.of("check none;channel 3;channel 2");
