@@ -29,6 +29,11 @@ final class Bench {
         return x;
     }
 
+    /** How many calls the object can still be asked. */
+    int left() {
+        return CALLS_MOST - calls;
+    }
+
     // ---- what comes in
 
     Bench tape(int... bytes) {

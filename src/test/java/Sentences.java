@@ -39,7 +39,7 @@ abstract class Sentences {
         }
     }
 
-    /** A promise begins with its call in a code span, which RulesTest looks at. */
+    /** A promise begins with its call in a code span, which FaceSentencesTest looks at. */
     private static String plainWords(String text) {
         String body = text.replaceAll("(?m)^```.*$", " ").strip();
         if (body.startsWith("`")) {
@@ -127,6 +127,11 @@ abstract class Sentences {
             from = to < 0 ? text.length() : told.nextClearBit(to);
         }
         return gaps;
+    }
+
+    /** All words of a section. */
+    static String wordsOf(String name) {
+        return SECTIONS.getOrDefault(name, "");
     }
 
     /** How many of the document's sections have this begin. */
