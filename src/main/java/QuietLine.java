@@ -641,7 +641,7 @@ public final class QuietLine {
             size += n;
         }
 
-        /** Four times the room at once: what is left behind stays a third of what is used. */
+        /** Four times the room at once: all that is left behind stays below four thirds of the limit. */
         private void makeRoom(int wanted) {
             if (wanted > cells.length) {
                 int[] wider = new int[Math.min(limit, Math.max(wanted, Math.max(16, 4 * cells.length)))];
